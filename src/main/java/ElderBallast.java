@@ -1329,7 +1329,8 @@ public final class ElderBallast {
         private static final int MOST_SIGNS = 40;
         private static final int MOST_DEPTH = 4;
         private static final int OPERATOR = -100;
-        private static final char MINUS_AHEAD = '~';
+        /** No sign of a text is above 255. */
+        private static final int MINUS_AHEAD = 256;
 
         private final int[] program = new int[MOST_SIGNS];
         private final int[] waiting = new int[MOST_SIGNS];
