@@ -9,15 +9,19 @@ import java.util.Random;
 public final class AgainstPlainTest {
     private static final int RUNS = 250;
     private static final int CALLS = 512;
+    private static final List<String> OF_A_BROTHER =
+            List.of("brother", "tells", "moves", "eases", "preaches", "trims", "minds", "looks");
 
     private final Random random;
     private final ElderBallast x = new ElderBallast();
     private final Plain y = new Plain();
     private final List<String> calls = new ArrayList<>();
     private int left = CALLS;
+    private final int kind;
 
     private AgainstPlainTest(long seed) {
         random = new Random(seed);
+        kind = random.nextInt(3);
     }
 
     public static void main(String[] args) throws Exception {
@@ -49,6 +53,12 @@ public final class AgainstPlainTest {
     }
 
     private String step() throws Exception {
+        if (kind == 1 && random.nextInt(3) > 0) {
+            return stormyStep();
+        }
+        if (kind == 2 && random.nextInt(3) > 0) {
+            return guessingStep();
+        }
         switch (random.nextInt(16)) {
             case 0: return say(random.nextInt(3) == 0 ? broken(brothersText()) : brothersText(), "brothers");
             case 1: return say(random.nextInt(3) == 0 ? broken(windsText()) : windsText(), "winds");
@@ -58,6 +68,42 @@ public final class AgainstPlainTest {
             case 5: return random.nextInt(4) == 0
                     ? say(random.nextInt(3) == 0 ? broken(digits(6)) : digits(6), "thoughts") : call("undo");
             default: return anyCall();
+        }
+    }
+
+    /** Far voyages, so that LEAGUES and OVERS come to where they end. */
+    private String stormyStep() throws Exception {
+        switch (random.nextInt(12)) {
+            case 0: return call("sails", 5 + random.nextInt(5));
+            case 1: return say(pick("+-") + pick("789") + (random.nextBoolean() ? pick("+-") + pick("789") : ""), "winds");
+            case 2: return say(random.nextBoolean() ? "0" : random.nextBoolean() ? "20" : "g+p*l", "rule");
+            case 3: return call("moves", random.nextInt(Math.max(1, y.count(0))), random.nextInt(11) - 5);
+            case 4: return call("best", 60 - random.nextInt(3));
+            case 5: return call("over");
+            case 6: return call("grave", random.nextInt(9), random.nextInt(11));
+            case 7: return call("makes", 9999 - random.nextInt(2));
+            default: return call("hours", 60 - random.nextInt(3));
+        }
+    }
+
+    /** What was seen and heard, mostly as it is. */
+    private String guessingStep() throws Exception {
+        int b = random.nextInt(Math.max(1, y.count(0)));
+        switch (random.nextInt(10)) {
+            case 0: {
+                int w = random.nextInt(19) - 9;
+                int s = random.nextInt(10);
+                return call("saw", w, s, y.pullIf(w, s) + (random.nextInt(5) == 0 ? 1 : 0));
+            }
+            case 1: return call("minds", b);
+            case 2: return call("looks", b);
+            case 3: return call("heard", random.nextInt(5), random.nextInt(3));
+            case 4: return call("fits");
+            case 5: return call("asks");
+            case 6: return call("steps", random.nextInt(4));
+            case 7: return call("swaps");
+            case 8: return call("trims", b);
+            default: return random.nextInt(4) == 0 ? call("denies") : random.nextInt(4) == 0 ? call("forget") : call("parties");
         }
     }
 
@@ -88,6 +134,9 @@ public final class AgainstPlainTest {
         if (name.equals("sheet")) {
             return i == 0 ? random.nextInt(5) : i == 1 ? random.nextInt(10) - 1
                     : random.nextInt(3) == 0 ? random.nextInt(600) - 300 : random.nextInt(12) - 3;
+        }
+        if (i == 0 && OF_A_BROTHER.contains(name)) {
+            return random.nextInt(y.count(0) + 1) - (random.nextInt(8) == 0 ? 1 : 0);
         }
         if (name.equals("years") && i == 0 || name.equals("sign")) {
             return random.nextInt();

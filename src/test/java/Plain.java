@@ -206,6 +206,10 @@ final class Plain {
         return pull(now);
     }
 
+    int pullIf(int wind, int sail) {
+        return cap(moment(now.withSail(sail), rule, wind) / 8, -20, 20);
+    }
+
     private State hour(State s, String by, int wind) {
         int pull = cap(moment(s, by, wind) / 8, -20, 20);
         int lean = s.lean;
