@@ -219,6 +219,7 @@ public final class ActsTest {
         CHECK.due("18: told", x.brother(1, 1), 1);
         CHECK.due("18: left", x.undo(), 0);
         CHECK.due("18: none", x.undo(), -1);
+        eachUndoneAlone();
         x = falling();
         x.undo();
         x.hours(60);
@@ -235,6 +236,35 @@ public final class ActsTest {
         }
         CHECK.due("18: the sail ahead of the latest 12", x.count(2), 2);
         CHECK.due("18: no more", x.undo(), -1);
+    }
+
+    /** Two acts, of which the latter is undone and the former is not. */
+    private static void eachUndoneAlone() {
+        String[] acts = {"n3", "t04", "m0-3", "e0", "p01", "s2"};
+        for (String act : acts) {
+            ElderBallast x = Check.three();
+            Check.say(x, "s9n1").watch();
+            Check.say(x, "10+1").brothers();
+            x.sails(7);
+            x.tells(3, 3);
+            String before = Check.seenOf(x);
+            char digit = act.charAt(1);
+            switch (act.charAt(0)) {
+                case 'n': x.hours(digit - '0'); break;
+                case 't': x.tells(0, 4); break;
+                case 'm': x.moves(0, -3); break;
+                case 'e': x.eases(0); break;
+                case 'p': x.preaches(0, 1); break;
+                default: x.sails(2); break;
+            }
+            CHECK.due("18: " + act + " is kept", x.count(11), 3);
+            CHECK.due("18: " + act + " is done", before.equals(Check.seenOf(x)), false);
+            CHECK.due("18: " + act + " is undone", x.undo(), 2);
+            CHECK.due("18: all as ahead of " + act, before.equals(Check.seenOf(x)), true);
+            Check.say(x, act).watch();
+            x.undo();
+            CHECK.due("18: all as ahead of the watch " + act, before.equals(Check.seenOf(x)), true);
+        }
     }
 
     private static void undoForgotten() {

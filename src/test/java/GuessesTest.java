@@ -212,6 +212,9 @@ public final class GuessesTest {
         CHECK.due("46: v 1: 0 and 1, 1 and 0: each pays 3 of 9", x, x.rests(1), 2, 0, 1);
         CHECK.due("46: v 18: 0 and 0, 9 and 9", x, x.rests(18), 2, 0, 0);
         CHECK.due("46: v 2: 0 and 2, 1 and 1, 2 and 0", x, x.rests(2), 3, 0, 2);
+        CHECK.due("46: v 7: 0 and 7 (7 pays 9 of 9), 1 and 6, .. 7 and 0, and 0 and 0", x, x.rests(7), 9, 0, 0);
+        CHECK.due("46: v 8: 0 and 0, 1 and 7, .. 7 and 1", x, x.rests(8), 8, 0, 0);
+        x.rests(2);
         CHECK.due("46: v 19", x, x.rests(19), -1, 0, 2);
         CHECK.due("46: v -1", x, x.rests(-1), -1, 0, 2);
     }
@@ -228,6 +231,10 @@ public final class GuessesTest {
         CHECK.due("47: the rule stays", x.brother(0, 3), 20);
         CHECK.due("47: 40 signs", Check.say(x, "10" + "+0".repeat(19)).law() > -100000, true);
         CHECK.due("47: 41 signs", Check.say(x, "g" + "+0".repeat(20)).law(), -100040);
+        x.hours(3);
+        int leagues = x.count(4);
+        Check.say(x, "").law();
+        CHECK.due("47: leagues more, not all", x.row(0) + leagues > 84 && x.row(0) < 84, true);
         Check.say(x, "g").law();
         Check.say(x, "x").rule();
         CHECK.due("47: the rule stays behind a refused one", x.brother(0, 3), 20);

@@ -21,6 +21,7 @@ public final class QuestionsTest {
         swaps();
         line();
         apart();
+        asFarAsCanBeSeen();
         CHECK.close();
     }
 
@@ -326,5 +327,31 @@ public final class QuestionsTest {
         CHECK.due("35: one thought", x, x.apart(), 1, 1);
         x = Check.with("10-1;11+1");
         CHECK.due("35: as far, not one place", x, x.apart(), 2, 3);
+    }
+
+    /** Pull is lean, but 1 more where the hour by 7 is 6: she leans 15 behind 105 hours. */
+    private static void asFarAsCanBeSeen() {
+        ElderBallast x = Check.with("00+5;00+3");
+        Check.say(x, "l+(n=6)").rule();
+        x.hours(5);
+        x.moment();
+        CHECK.due("21: in 100 hours", x, x.over(), -2, 100, 0, 0);
+        CHECK.due("22: in 100 hours", x, x.when(15), -2, 100, 0, 0);
+        x.hours(1);
+        CHECK.due("21: in 99 hours", x, x.over(), 99, 115);
+        CHECK.due("22: in 99 hours", x, x.when(15), 99, 1);
+        CHECK.due("22: seven hours each", x, x.when(3), 15, 7);
+        CHECK.due("23: in 99 hours", x, x.rolls(99), 115, 99, 100, 0);
+        CHECK.due("24: till then", x, x.steady(99, 14), 98, 1);
+        CHECK.due("24: one hour", x, x.steady(1, 0), 0, 0);
+        CHECK.due("24: one hour", x, x.steady(1, 1), 1, 1);
+        x = in("+1");
+        x.sails(3);
+        CHECK.due("25: in 99 hours", x, x.makes(99), 99, 99, 3);
+        CHECK.due("25: in 100 hours", x, x.makes(100), -2, 99, 3);
+        CHECK.due("27: 60 hours", x, x.best(60), 9, 60 * 3 - 59, 60);
+        x = in("-9+9+9-9");
+        CHECK.due("23: leans -2 0 2 0 -2: the first least one", x, x.rolls(5), 102, 3, 98, 1);
+        CHECK.due("23: leans -2 0 2 0 -2: the first least one", x, x.rolls(9), 102, 3, 98, 1);
     }
 }
