@@ -4,6 +4,7 @@ import java.util.NoSuchElementException;
 final class Check {
     private int asked;
     private int wrong;
+    private String about = "";
 
     /** A call that may throw. */
     interface Call {
@@ -36,11 +37,28 @@ final class Check {
         return x;
     }
 
+    /** What the answers asked from now on are about. */
+    void about(String words) {
+        about = words;
+    }
+
+    int asked() {
+        return asked;
+    }
+
     void due(String what, long got, long want) {
         asked++;
         if (got != want) {
             wrong++;
-            System.out.println(what + " answered " + got + ", due is " + want);
+            System.out.println(about + what + " answered " + got + ", due is " + want);
+        }
+    }
+
+    void due(String what, String got, String want) {
+        asked++;
+        if (!got.equals(want)) {
+            wrong++;
+            System.out.println(about + what + " answered\n  " + got + ", due is\n  " + want);
         }
     }
 
@@ -65,7 +83,7 @@ final class Check {
             return;
         }
         wrong++;
-        System.out.println(what + " does not throw NoSuchElementException");
+        System.out.println(about + what + " does not throw NoSuchElementException");
     }
 
     /** All that can be seen of an object, but for its ROW. */
