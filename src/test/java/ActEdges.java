@@ -293,6 +293,10 @@ final class ActEdges {
             x.preaches(1, 9);
             x.preaches(1, 9);
             c.due("done once", x.count(11), 5);
+            x = Check.with("10+0");
+            c.due("eased to 0, which is done", x.eases(0), 0);
+            c.due("eased to 0", x.undo(), 0);
+            c.due("not eased", x.brother(0, 0), 1);
         });
         e.edge(18, "is undone (all of BROTHERS, SAIL, LEAN, LEAGUES, OVERS, HOUR are as ahead of it): how many are left that can be", c -> {
             List<ToLongFunction<ElderBallast>> acts = List.of(x -> x.hours(60), x -> x.tells(0, 5), x -> x.moves(0, -5), x -> x.eases(0),
@@ -446,6 +450,25 @@ final class ActEdges {
             for (int what = 0; what < 14; what++) {
                 c.due("at last, count " + what, x.count(what), last[what]);
             }
+        });
+        e.edge(51, "7: GRAVITY of all, 8: WEIGHT of all", c -> {
+            ElderBallast x = Check.with("10+0");
+            c.due("weight at first", x.count(8), 1);
+            x.preaches(0, 5);
+            c.due("weight behind preaches()", x.count(8), 6);
+            x.tells(0, 5);
+            c.due("weight behind tells()", x.count(8), 15);
+            Check.say(x, "000001").thoughts();
+            c.due("weight behind thoughts()", x.count(8), 7);
+            x.undo();
+            c.due("weight behind undo()", x.count(8), 6);
+            x.sheet(0, 1, 2, 0);
+            c.due("weight behind sheet()", x.count(8), 2);
+            Check.say(x, "19").rule();
+            c.due("weight behind rule()", x.count(8), 19);
+            Check.say(x, "90+0").brothers();
+            c.due("weight behind brothers()", x.count(8), 38);
+            c.due("gravity behind brothers()", x.count(7), 11);
         });
         e.refused(51, "NONE for another what", -1, List.of(x -> x.count(-1), x -> x.count(14), x -> x.count(MIN), x -> x.count(MAX)));
         e.edge(52, "Number i of the ROW. NoSuchElementException: none such", c -> {

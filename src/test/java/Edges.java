@@ -106,6 +106,10 @@ final class Edges {
 
     /** Each edge's words must stand in the document, and each mark of a boundary in some edge's words. */
     void holdAgainst(Path document) throws IOException {
+        if (!Files.isReadable(document)) {
+            System.out.println("no document at " + document + ": the words are not looked for");
+            return;
+        }
         String[] parts = partsOf(Files.readString(document));
         boolean[][] tested = new boolean[parts.length][];
         for (int i = 0; i < parts.length; i++) {

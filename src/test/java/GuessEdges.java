@@ -112,6 +112,11 @@ final class GuessEdges {
             c.due("0 .. 45: all part by -9 and 1", x, x.looks(0), 1, 1);
             x.saw(0, 0, 0);
             c.due("one is left: the least look", x, x.looks(0), 0, 1);
+            x = Check.with("00+1;30-1;40-2");
+            Check.say(x, "000001").thoughts();
+            c.due("-11 and -10: 7 and 8 by 1 and 9", x, x.looks(0), 109, 5);
+            x = Check.with("00-5;90-5;90-5;90-5;90-5;90-5;30-5");
+            c.due("-240 .. -285: -78, -83, -93, .. -123 by 9 and 9 alone", x, x.looks(0), 189, 1);
         });
         e.edge(39, "-2: none is left", c -> {
             ElderBallast x = Check.three();
@@ -237,6 +242,11 @@ final class GuessEdges {
             c.due("seven hours", x, x.grave(7, 10), 0, 0, 1);
             c.due("eight hours", x, x.grave(8, 10), 0, 1, 1);
             c.due("eight hours to larboard", x, x.grave(8, 0), 0, 1, 1);
+            x.sails(8);
+            c.due("just 15 in the eighth hour", x, x.grave(8, 10), 0, 1, 1);
+            c.due("just -15 in the eighth hour", x, x.grave(8, 0), 0, 1, 1);
+            c.due("14 in the seventh", x, x.grave(7, 10), 0, 0, 1);
+            x.sails(9);
             c.due("1 and 9 of 10, eight times", x, x.grave(8, 1), 0, 21523361, 50000000);
             Check.say(x, "+9").winds();
             x.hours(7);

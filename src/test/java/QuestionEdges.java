@@ -238,6 +238,15 @@ final class QuestionEdges {
             c.due("90: but 5, one", x, x.steps(5), 1, 50);
             x = by("00+4;00+4;01-1", "k*5");
             c.due("who thought alike is weighed anew", x, x.steps(0), 1, 2);
+            x = Check.with("00+5;05+5;05+5");
+            c.due("90: the last two, the first as he is", x, x.steps(0), 2, 10, 20);
+            for (String side : new String[] {"+", "-"}) {
+                x = by("90@2;05@1".replace("@", side), "g+t*i");
+                Check.say(x, "555559").thoughts();
+                c.due("18 and 5: 23 by 8 is 2", x, x.steps(2), 1, 10);
+                Check.say(x, "666669").thoughts();
+                c.due("18 and 6: 24 by 8 is 3", x.steps(2), -2);
+            }
         });
         e.edge(26, "-2: by no two", c -> {
             ElderBallast x = Check.with("05+2;05+2;05+2");
@@ -251,6 +260,12 @@ final class QuestionEdges {
             x.moment();
             c.due("there is none", x, x.steps(10), -2, 111, 0, 0);
             c.due("there is none, none is needed", x, x.steps(11), 0);
+            x = Check.with("05+5;".repeat(6) + "05+5");
+            c.due("seven: 225 by two", x.steps(0), -2);
+            c.due("seven: 225 by two is put to 20", x, x.steps(20), 0);
+            x = Check.with("90+5;00+0");
+            c.due("two: 45 at least", x.steps(4), -2);
+            c.due("two: 45", x.steps(5), 0);
         });
         e.refused(26, "NONE: another v", -1, List.of(x -> x.steps(-1), x -> x.steps(21), x -> x.steps(MIN), x -> x.steps(MAX)));
     }
@@ -316,6 +331,10 @@ final class QuestionEdges {
             Check.say(x, "+9").winds();
             x.sails(9);
             c.due("182 - 100: put to 20 but for -5 .. -2", x, x.trims(1), 5, 110);
+            x = by("00+0;00+5;00+5;00+5;00+5", "20");
+            c.due("300 .. 500, all put to 20", x, x.trims(0), 5, 120);
+            x = by("00+0;00-5;00-5;00-5;00-5", "20");
+            c.due("-500 .. -300, all put to -20", x, x.trims(0), 5, 80);
         });
         e.refused(28, "NONE: none such", -1, List.of(x -> x.trims(-1), x -> x.trims(4), x -> x.trims(7), x -> x.trims(MIN), x -> x.trims(MAX)));
     }
@@ -335,6 +354,10 @@ final class QuestionEdges {
             x = by("00+5;00+5;00+5", "20");
             Check.say(x, "+9").winds();
             c.due("300 and 90, put to 20: the first", x, x.frees(), 0, 120, 120);
+            x = by("00-5;00-5;00-5", "20");
+            c.due("-300 and -200, put to -20: the first", x, x.frees(), 0, 80, 80);
+            x = Check.with("00+0;70+1;70+1");
+            c.due("14 and 7", x, x.frees(), 1, 100, 101);
         });
         e.edge(29, "-2: there are none", c -> {
             ElderBallast x = in("+9");
@@ -419,6 +442,12 @@ final class QuestionEdges {
             c.due("-35: the last to the middle, 0 in his place", x, x.swaps(), 6, 101);
             x = Check.with("90+5;90+5;90+5;90+5;90+5;90+5;00-5");
             c.due("270, and 180: put to 20, the first", x, x.swaps(), 1, 120);
+            x = Check.with("90-5;90-5;90-5;90-5;90-5;90-5;00+5");
+            c.due("-270, and -180: put to -20, the first", x, x.swaps(), 1, 80);
+            x = Check.with("00+5;90+5;50-4");
+            c.due("25, 70 and -11: the last two", x, x.swaps(), 12, 99);
+            x = Check.with("00+5;00+5;00+5;00+5;00+5;90+5;50-4");
+            c.due("the last two of seven", x, x.swaps(), 56, 99);
             x = Check.with("00+0;20-5;90-4;80+5");
             c.due("-10 - 36 + 40: pull 0, as 0 and 1, ..", x, x.swaps(), 1, 100);
             x = by("00+5;05+1", "p*t");

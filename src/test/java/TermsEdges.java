@@ -1,7 +1,14 @@
 import java.util.List;
+import java.util.function.Consumer;
+import java.util.function.ToIntFunction;
 
 /** Edges of the terms: what can be, rules, how an hour goes by, refusals, the ROW. */
 final class TermsEdges {
+    private static final List<ToIntFunction<ElderBallast>> QUESTIONS = List.of(ElderBallast::moment, x -> x.later(30), ElderBallast::over, x -> x.when(3),
+            x -> x.rolls(40), x -> x.steady(40, 6), x -> x.makes(200), x -> x.steps(0), x -> x.best(20), x -> x.trims(1), ElderBallast::frees,
+            ElderBallast::bears, ElderBallast::parties, x -> x.just(12), ElderBallast::swaps, ElderBallast::line, ElderBallast::apart, x -> x.minds(1),
+            x -> x.looks(1), ElderBallast::fits, ElderBallast::asks, x -> x.grave(8, 3), x -> x.years(3, 40), x -> Check.say(x, "g").law(), x -> x.count(8));
+
     private TermsEdges() {
     }
 
@@ -122,8 +129,8 @@ final class TermsEdges {
         });
         e.edge(0, "< > = bind least (two; 1 or 0; not one behind the other)", c -> {
             String[] rules = {"3<4", "4<4", "5<4", "3>4", "4>4", "5>4", "3=4", "4=4", "1+1<1+2", "2*2=4", "(1<2)+(2>1)", "(1<2)<3", "3-3=0",
-                "-1<0", "5-(1<2)"};
-            int[] due = {1, 0, 0, 0, 0, 1, 0, 1, 1, 1, 2, 1, 1, 1, 4};
+                "-1<0", "5-(1<2)", "5+(4<3)", "5+(4<4)", "5+(3>4)", "5+(4>4)", "5+(3=4)"};
+            int[] due = {1, 0, 0, 0, 0, 1, 0, 1, 1, 1, 2, 1, 1, 1, 4, 5, 5, 5, 5, 5};
             for (int i = 0; i < rules.length; i++) {
                 c.due("weight by " + rules[i], weightBy(rules[i]), due[i]);
             }
@@ -152,8 +159,9 @@ final class TermsEdges {
             }
         });
         e.edge(0, "then - ahead of a thing (any many)", c -> {
-            String[] rules = {"-5", "--5", "-".repeat(38) + "5", "-".repeat(39) + "5", "9--5", "9---5", "3*-2+9", "-3*-2", "-(2-9)", "20/-2+13", "-2*3+9", "--g"};
-            int[] due = {0, 5, 5, 0, 14, 4, 3, 6, 7, 3, 3, 7};
+            String[] rules = {"-5", "--5", "-".repeat(38) + "5", "-".repeat(39) + "5", "9--5", "9---5", "3*-2+9", "-3*-2", "-(2-9)", "20/-2+13", "-2*3+9", "--g",
+                "-(512*512*512*16)/2", "(-(512*512*512*16)/2<0)*3"};
+            int[] due = {0, 5, 5, 0, 14, 4, 3, 6, 7, 3, 3, 7, 0, 3};
             for (int i = 0; i < rules.length; i++) {
                 c.due("weight by " + rules[i], weightBy(rules[i]), due[i]);
             }
@@ -276,6 +284,7 @@ final class TermsEdges {
             for (int i = 0; i < once.length; i++) {
                 c.due("weighed by HOUR ahead of the hour, " + i, x.hours(1), 100 + once[i]);
             }
+            hourByHour(c);
             x = inWind("+0+9", 5);
             c.due("WIND of the hour that goes by", x.hours(1), 100);
             c.due("WIND of the hour that goes by", x.hours(1), 102);
@@ -284,6 +293,28 @@ final class TermsEdges {
             Check.say(x, "-9").winds();
             c.due("from 11 to -11", x.hours(1), 109);
         });
+    }
+
+    /** Hours that go by together are as those that go by one by one, whatever of LEAN and HOUR the rule sees. */
+    private static void hourByHour(Check c) {
+        for (String rule : new String[] {"l", "n", "l+1", "20-l", "n*3", "l*n", "20*(l<3)", "20*(n<5)", "20-20*(l>18)*(n=3)", "20-20*(l=20)*(n=6)", "20-20*(l=19)",
+            "20*(l=20)+20*(l<20)*(n>0)"}) {
+            for (String side : new String[] {"+", "-"}) {
+                ElderBallast x = Check.with("00@5;00@5".replace("@", side));
+                Check.say(x, rule).rule();
+                Check.say(x, side + "9" + side + "1").winds();
+                ElderBallast y = Check.with("00@5;00@5".replace("@", side));
+                Check.say(y, rule).rule();
+                Check.say(y, side + "9" + side + "1").winds();
+                for (int i = 0; i < 60; i++) {
+                    y.hours(1);
+                }
+                c.due("60 hours later by " + rule + " to " + side, x.later(60), y.count(3));
+                c.due("60 hours by " + rule + " to " + side, x.hours(60), y.count(3));
+                c.due("all by " + rule + " to " + side, Check.seenOf(x).replaceFirst("^((?:\\S+ ){11})\\S+ ", "$1"),
+                        Check.seenOf(y).replaceFirst("^((?:\\S+ ){11})\\S+ ", "$1"));
+            }
+        }
     }
 
     private static void leaguesInAnHour(Edges e) {
@@ -426,6 +457,26 @@ final class TermsEdges {
             x = Edges.busy();
             int lean = x.later(20);
             c.due("20 hours later", x.hours(20), lean);
+        });
+        e.edge(0, "Questions change nothing.", c -> {
+            List<Consumer<ElderBallast>> changes = List.of(x -> x.tells(0, 1), x -> x.moves(0, -1), x -> x.eases(0), x -> x.preaches(1, 3), x -> x.sails(4),
+                    x -> x.sheet(2, 4, 1, 2), x -> x.hours(3), ElderBallast::undo, x -> x.again(1), x -> Check.say(x, "975310").thoughts(),
+                    x -> Check.say(x, "-9+8").winds(), x -> Check.say(x, "g*2+n").rule(), x -> Check.say(x, "95-5").brothers(),
+                    x -> Check.say(x, "n3m0-5").watch(), ElderBallast::denies, ElderBallast::forget);
+            for (int i = 0; i < changes.size(); i++) {
+                for (int question = 0; question < QUESTIONS.size(); question++) {
+                    ElderBallast x = Edges.busy();
+                    QUESTIONS.get(question).applyAsInt(x);
+                    changes.get(i).accept(x);
+                    ElderBallast y = Edges.busy();
+                    changes.get(i).accept(y);
+                    // A ROW of both alike, for answers with which it stays.
+                    x.rests(0);
+                    y.rests(0);
+                    c.due("question " + question + " behind change " + i, QUESTIONS.get(question).applyAsInt(x), QUESTIONS.get(question).applyAsInt(y));
+                    c.due("the ROW of question " + question + " behind change " + i, Check.rowOf(x), Check.rowOf(y));
+                }
+            }
         });
     }
 

@@ -263,6 +263,23 @@ final class TextEdges {
             c.due("it forgets nothing", x.undo(), 0);
             c.due("it is not undone", x.brother(0, 3), 5);
         });
+        e.edge(7, "(an empty one: none)", c -> {
+            ElderBallast x = Check.with("73+0");
+            String full = "10" + "+0".repeat(19);
+            for (String before : new String[] {"g", "1<2", "-g", full, "((((1))))", "g+", "(((", "1<2<", "x"}) {
+                for (int times = 1; times <= 4; times++) {
+                    for (int i = 0; i < times; i++) {
+                        Check.say(x, before).rule();
+                    }
+                    c.due("none behind " + times + " times " + before, Check.say(x, "").rule(), 0);
+                    c.due("g+t behind " + times + " times " + before, x.brother(0, 3), 12);
+                }
+            }
+            for (int i = 0; i < 5; i++) {
+                c.due("< once more", Check.say(x, "3<4").rule(), 0);
+                c.due("= in ( ) once more", Check.say(x, "(3=4)").rule(), 0);
+            }
+        });
         e.edge(7, "-1 - p: the sign at p can't stand there", c -> {
             String things = "/:*+<>=);,. xGaz~!" + (char) 0 + (char) 255 + (char) 173;
             for (char sign : things.toCharArray()) {
