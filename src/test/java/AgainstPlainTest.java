@@ -9,6 +9,7 @@ import java.util.Random;
 public final class AgainstPlainTest {
     private static final int RUNS = 250;
     private static final int CALLS = 512;
+    private static final int[] FAR_OFF = {Integer.MIN_VALUE, Integer.MIN_VALUE + 1, Integer.MAX_VALUE, Integer.MAX_VALUE - 1};
     private static final List<String> OF_A_BROTHER =
             List.of("brother", "tells", "moves", "eases", "preaches", "trims", "minds", "looks");
 
@@ -129,7 +130,7 @@ public final class AgainstPlainTest {
 
     private int argument(String name, int i) {
         if (random.nextInt(40) == 0) {
-            return random.nextInt();
+            return random.nextBoolean() ? random.nextInt() : FAR_OFF[random.nextInt(FAR_OFF.length)];
         }
         if (name.equals("sheet")) {
             return i == 0 ? random.nextInt(5) : i == 1 ? random.nextInt(10) - 1
